@@ -326,7 +326,7 @@ public final class AshClerks {
         int below = 0;
         int sets = 1 << now.size;
         for (int laughing = 0; laughing < sets; laughing++) {
-            if ((laughing >> clerk & 1) == 0) {
+            if (((laughing >> clerk) & 1) == 0) {
                 int ways = waysToLaugh(clerk, laughing, c);
                 below += ways;
                 if (ways > 0 && fallsByLaughs(clerk, laughing)) {
@@ -521,11 +521,11 @@ public final class AshClerks {
         trial.take(now);
         int fallen = 0;
         for (int c = 0; c < now.size; c++) {
-            if ((laughing >> c & 1) != 0) {
+            if (((laughing >> c) & 1) != 0) {
                 fallen |= trial.jolt(now.seat[c], LAUGH);
             }
         }
-        return (fallen >> clerk & 1) != 0;
+        return ((fallen >> clerk) & 1) != 0;
     }
 
     /** In how many of 10 to the power of the other clerks' number just these of them laugh. */
@@ -533,7 +533,7 @@ public final class AshClerks {
         int ways = 1;
         for (int other = 0; other < now.size; other++) {
             if (other != clerk) {
-                ways *= (laughing >> other & 1) != 0 ? c : LAUGH_ODDS - c;
+                ways *= ((laughing >> other) & 1) != 0 ? c : LAUGH_ODDS - c;
             }
         }
         return ways;
@@ -558,7 +558,7 @@ public final class AshClerks {
         int told = 0;
         for (int k = 0; k < n; k++) {
             long item = from.row[i + k];
-            if (item < 0 || item >= now.size || (told >> (int) item & 1) != 0) {
+            if (item < 0 || item >= now.size || ((told >> (int) item) & 1) != 0) {
                 return NOT;
             }
             told |= 1 << (int) item;
@@ -637,7 +637,7 @@ public final class AshClerks {
         }
 
         boolean isSmoking(int c) {
-            return (smoking >> c & 1) != 0;
+            return ((smoking >> c) & 1) != 0;
         }
 
         int holds(int c) {
@@ -697,7 +697,7 @@ public final class AshClerks {
         }
 
         void joltByDraw() {
-            draw = draw * 1103515245 + 12345 & 0x7fffffff;
+            draw = (draw * 1103515245 + 12345) & 0x7fffffff;
             if (draw / 65536 % 5 == 0) {
                 jolt(draw / 128 % DESKS, draw / 1024 % 20);
             }
