@@ -266,6 +266,28 @@ public final class ClerksEdgeTest {
         edges.holds("what is known", Edges.pastOf(x).equals(Edges.pastOf(Edges.six())));
     }
 
+    private static void promise07NoLetterOfAnEarlierTapeIsRead() {
+        String text = "12;p01/9x,n23";
+        for (int end = 0; end < text.length(); end++) {
+            if (end != 6 && end != 8 && end != 9) {
+                AshClerks x = Due.with(text);
+                edges.is("the first " + end + " behind all", Due.office(x, text.substring(0, end)), -20 - end);
+                AshClerks y = typed(text, 70);
+                y.office();
+                edges.is("the first " + end + " behind all with blanks", Due.office(y, text.substring(0, end)), -20 - end);
+                AshClerks z = typed("", 70);
+                z.office();
+                edges.is("the first " + end + " behind blanks", Due.office(z, text.substring(0, end)), -20 - end);
+            }
+        }
+        AshClerks x = Due.with("12;p01/99x");
+        edges.is("one digit behind two", Due.office(x, "12;p01/5"), 1);
+        edges.is("its ash", x.of(0, 3), 5);
+        edges.is("it smokes", x.of(0, 4), 1);
+        edges.is("no ash behind that", Due.office(x, "12;p01"), 1);
+        edges.is("none", x.of(0, 3), 0);
+    }
+
     // ---- promise 8: "0 CLERKS, 1 the MINUTE, 2 RATE, 3 SIGH, 4 PAY of all, 5 who SMOKES, 6 who has ASH, 7 .. UNDONE. BAD"
 
     private static void promise08WhatIsNoughtToSeven() {

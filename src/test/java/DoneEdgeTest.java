@@ -372,22 +372,26 @@ public final class DoneEdgeTest {
     }
 
     private static void part3DriftForcesAreNoughtToNineteen() {
-        // steady by 6 with less than 10 ash holds 18, as much as a force of 18
-        edges.is("19 is more than 18", ashBehind("p56/5", Edges.drawOf(0, 0, 19, 5)), 0);
-        edges.is("18 is not", ashBehind("p56/5", Edges.drawOf(0, 0, 18, 5)), 6);
-        edges.is("1 is more than 0", ashBehind("n51/5", Edges.drawOf(0, 0, 1, 5)), 0);
-        edges.is("0 is not", ashBehind("n51/5", Edges.drawOf(0, 0, 0, 5)), 6);
+        for (int from : new int[] {0, 900000000, 1800000000}) {
+            // steady by 6 with less than 10 ash holds 18, as much as a force of 18
+            edges.is("19 is more than 18", ashBehind("p56/5", Edges.drawOf(from, 0, 19, 5)), 0);
+            edges.is("18 is not", ashBehind("p56/5", Edges.drawOf(from, 0, 18, 5)), 6);
+            edges.is("1 is more than 0", ashBehind("n51/5", Edges.drawOf(from, 0, 1, 5)), 0);
+            edges.is("0 is not", ashBehind("n51/5", Edges.drawOf(from, 0, 0, 5)), 6);
+        }
     }
 
     private static void part3DriftDesksAreNoughtToNine() {
-        for (int desk = 0; desk <= 9; desk++) {
-            // no draw has a force of 19 at desks 0 and 1; steady by 6 with 10 ash holds 17, with less 18
-            String rest = desk < 2 ? "6/9" : "6/5";
-            int stands = desk < 2 ? 10 : 6;
-            int draw = Edges.drawOf(0, 0, desk < 2 ? 18 : 19, desk);
-            edges.is("at desk " + desk, ashBehind("p" + desk + rest, draw), 0);
-            edges.is("a desk off", ashBehind("p" + (desk == 0 ? 1 : desk - 1) + rest, draw), stands);
-            edges.is("a desk off", ashBehind("p" + (desk == 9 ? 8 : desk + 1) + rest, draw), stands);
+        for (int from : new int[] {0, 900000000, 1800000000}) {
+            for (int desk = 0; desk <= 9; desk++) {
+                // no draw has a force of 19 at desks 0 and 1; steady by 6 with 10 ash holds 17, with less 18
+                String rest = desk < 2 ? "6/9" : "6/5";
+                int stands = desk < 2 ? 10 : 6;
+                int draw = Edges.drawOf(from, 0, desk < 2 ? 18 : 19, desk);
+                edges.is("at desk " + desk, ashBehind("p" + desk + rest, draw), 0);
+                edges.is("a desk off", ashBehind("p" + (desk == 0 ? 1 : desk - 1) + rest, draw), stands);
+                edges.is("a desk off", ashBehind("p" + (desk == 9 ? 8 : desk + 1) + rest, draw), stands);
+            }
         }
     }
 

@@ -8,6 +8,7 @@ import java.util.Arrays;
 import java.util.List;
 import java.util.Random;
 import java.util.TreeSet;
+import java.util.stream.Stream;
 
 /** The public face, what LANGUAGE.md says of it, and that no call ever throws, whatever its arguments are. */
 public final class FaceTest {
@@ -22,6 +23,7 @@ public final class FaceTest {
         methods();
         fields();
         words();
+        edgeTests();
         neverThrows();
         due.end();
     }
@@ -73,6 +75,23 @@ public final class FaceTest {
             "System.out", "Exact(", "while (true)", "for (;;)"};
         for (String word : never) {
             due.holds("the class has no '" + word + "'", !text.contains(word));
+        }
+    }
+
+    /** Each promise and each part of 'Terms' has edge tests, named after it. */
+    private static void edgeTests() throws Exception {
+        StringBuilder all = new StringBuilder();
+        try (Stream<Path> files = Files.list(Path.of("src/test/java"))) {
+            for (Path file : files.filter(f -> f.toString().endsWith("EdgeTest.java")).toList()) {
+                all.append(Files.readString(file));
+            }
+        }
+        for (int promise = 1; promise <= 31; promise++) {
+            String start = "static void promise" + promise / 10 + promise % 10;
+            due.holds("there is an edge test of promise " + promise, all.indexOf(start) >= 0);
+        }
+        for (String part : new String[] {"terms", "part1", "part2", "part3"}) {
+            due.holds("there is an edge test of " + part, all.indexOf("static void " + part) >= 0);
         }
     }
 

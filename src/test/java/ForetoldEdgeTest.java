@@ -230,6 +230,17 @@ public final class ForetoldEdgeTest {
         luckIs("one near, by 3", last, 5, 3, 3, 10);
     }
 
+    private static void part2LuckOfEachNumber() {
+        // a laugh is felt up to four desks off
+        AshClerks x = Due.with("12;n01/5,n01/5,n41/5x,n51/5,n91/5,n91/5");
+        luckIs("0 by 1 or 2", x, 0, 3, 51, 100);
+        luckIs("1 by 0 or 2", x, 1, 3, 51, 100);
+        luckIs("2, laid down", x, 2, 3, 0, 1);
+        luckIs("3 by 2, 4 or 5", x, 3, 3, 657, 1000);
+        luckIs("4 by 3 or 5", x, 4, 3, 51, 100);
+        luckIs("5 by 3 or 4", x, 5, 3, 51, 100);
+    }
+
     private static void part2LuckOneBehindTheOtherByNumbers() {
         // 1 sighs only if 2 laughs, which is near it; a sigh of 9 comes to 0 as 1
         AshClerks x = Due.with("19;n01/5,n41/10,p81x");

@@ -204,22 +204,24 @@ public final class SheetsEdgeTest {
     }
 
     private static void promise27NoItemMore() {
-        // ash 2, 1, 0 tell clerks with ways of their own, and so are those round them
+        // ash 0, 1, 2 tell clerks with ways of their own; clerk 3 has no ash, so it never fell
         AshClerks x = Due.with("10;p01/2,p41/1,p91/3,p91/0");
-        Edges.withInts(x, 0, 2, 2, 2, 2, 2);
-        int[] own = {4, 306, 708};
+        filmIs("none yet", Edges.withInts(x, 0, 0, 0, 0, 0, 0), 4, 4, 4, 4, 4);
         edges.is("two", x.film(2, 0, 2, 1), 2);
-        int[] want = {own[2], own[2], own[1], own[2], own[2]};
-        for (int i = 0; i < 5; i++) {
-            edges.is("item " + i, x.whence(0, 2, i, 1, 1), want[i]);
-        }
-        edges.is("one", x.film(1, 0, 2, 4), 1);
+        filmIs("ash 2, 1", x, 4, 708, 306, 4, 4);
+        edges.is("one, at the end", x.film(1, 0, 2, 4), 1);
+        filmIs("ash 2", x, 4, 708, 306, 4, 708);
+        x.item(0, 2, 3, 1);
         edges.is("four", x.film(4, 0, 2, 0), 4);
-        edges.is("ash 2", x.whence(0, 2, 0, 1, 1), own[2]);
-        edges.is("ash 1", x.whence(0, 2, 1, 1, 1), own[1]);
-        edges.is("ash 3 is the clerk without ash, who never fell", x.whence(0, 2, 2, 1, 1), NONE);
-        edges.is("ash 0", x.whence(0, 2, 3, 1, 1), own[0]);
-        edges.is("what was there", x.whence(0, 2, 4, 1, 1), own[2]);
+        filmIs("ash 2, 1, 3, 0", x, 708, 306, NONE, 4, 708);
+        edges.is("one, at the start", Edges.withInts(x, 0, 0, 0, 0, 0, 0).film(1, 0, 2, 0), 1);
+        filmIs("ash 2", x, 708, 4, 4, 4, 4);
+    }
+
+    private static void filmIs(String what, AshClerks x, int... firstWays) {
+        for (int i = 0; i < firstWays.length; i++) {
+            edges.is(what + ", item " + i, x.whence(0, 2, i, 1, 1), firstWays[i]);
+        }
     }
 
     private static void promise27IsNothingToBeUndone() {
