@@ -58,6 +58,15 @@ public final class ClerksEdgeTest {
         edges.is("nor its image", x.restore(), NONE);
     }
 
+    // "An object is used for at most 512 calls after it has been made"
+    private static void promise01The512thCallIsAnswered() {
+        AshClerks x = Due.with("12;p01/5");
+        for (int call = 10; call <= 511; call++) {
+            edges.is("call " + call, call % 2 == 0 ? x.lay(0) : x.light(0), 5);
+        }
+        edges.is("call 512", x.count(7), 8);
+    }
+
     // ---- promise 2: "A CLERK: its number. BAD; FULL: 6"
 
     private static void promise02TheSixthIsTakenTheSeventhIsFull() {

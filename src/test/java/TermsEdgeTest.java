@@ -429,6 +429,19 @@ public final class TermsEdgeTest {
         edges.is("all have ash", x.count(6), 63);
     }
 
+    private static void part1LaidItDoesNotSmokeLitItSmokesOn() {
+        AshClerks x = Due.with("12;p01/98,p01");
+        x.lay(0);
+        edges.is("it does not smoke", x.of(0, 4), 0);
+        edges.is("a minute makes no ash of it", x.minutes(1), 98 + 1);
+        edges.is("nothing falls", x.shake(0, 99), 2);
+        x.light(0);
+        edges.is("it smokes", x.of(0, 4), 1);
+        edges.is("on from its ash", x.minutes(1), 99 + 1);
+        edges.is("99 at most", x.minutes(1), 99 + 2);
+        edges.is("it falls", x.shake(0, 99), 3);
+    }
+
     private static void part1PayIsRateTimesAllAsh() {
         edges.is("nobody", new AshClerks().count(4), 0);
         edges.is("the most", Due.with("92;p01/99,p01/99,p01/99x,p01/99x,p01/99,p01/99").count(4), 9 * 6 * 99);
