@@ -8,6 +8,8 @@ import java.util.Arrays;
 import java.util.List;
 import java.util.Random;
 import java.util.TreeSet;
+import java.util.regex.Matcher;
+import java.util.regex.Pattern;
 import java.util.stream.Stream;
 
 /** The public face, what LANGUAGE.md says of it, and that no call ever throws, whatever its arguments are. */
@@ -23,6 +25,7 @@ public final class FaceTest {
         methods();
         fields();
         words();
+        library();
         edgeTests();
         neverThrows();
         due.end();
@@ -76,6 +79,26 @@ public final class FaceTest {
         for (String word : never) {
             due.holds("the class has no '" + word + "'", !text.contains(word));
         }
+    }
+
+    /** Of the library, the class uses nothing but what rule 4 of LANGUAGE.md lists and this names. */
+    private static void library() throws Exception {
+        List<String> used = List.of("System.arraycopy", "Math.max", "Math.min", "Math.abs", "Integer.bitCount");
+        Matcher dotted = Pattern.compile("\\b[A-Z]\\w*\\.\\w+").matcher(code());
+        while (dotted.find()) {
+            due.holds(dotted.group() + " is in the library that is left", used.contains(dotted.group()));
+        }
+        Matcher made = Pattern.compile("new (\\w+)").matcher(code());
+        List<String> own = List.of("Room", "Past", "Tape", "Seating", "Sheet", "int", "long");
+        while (made.find()) {
+            due.holds("new " + made.group(1) + " is of the class's own or a row of numbers", own.contains(made.group(1)));
+        }
+    }
+
+    /** The class without its comments. */
+    private static String code() throws Exception {
+        String text = Files.readString(Path.of("src/main/java/AshClerks.java"));
+        return text.replaceAll("(?s)/\\*.*?\\*/", "").replaceAll("//[^\n]*", "");
     }
 
     /** Each promise and each part of 'Terms' has edge tests, named after it. */

@@ -14,7 +14,9 @@ import java.util.regex.Pattern;
  */
 public final class ModelTest {
     private static final int RUNS = 1500;
+    // beyond 512 calls an object's answers are free, so no step may begin that could go there: an office is the longest
     private static final int CALLS = 512;
+    private static final int LONGEST_STEP = 80;
 
     public static void main(String[] args) {
         Due due = new Due();
@@ -32,6 +34,7 @@ public final class ModelTest {
         private final AshClerks x = new AshClerks();
         private final Model m = new Model();
         private final StringBuilder told = new StringBuilder();
+        private int asked = 0;
 
         Run(Due due, int run) {
             this.due = due;
@@ -41,15 +44,17 @@ public final class ModelTest {
 
         void go() {
             int calls = 0;
-            while (calls < CALLS && due.allRight()) {
+            while (calls <= CALLS - LONGEST_STEP && due.allRight()) {
                 calls += step();
             }
+            due.holds("run " + run + " stays within " + CALLS + " calls", asked <= CALLS);
             if (!due.allRight()) {
                 System.out.println(told);
             }
         }
 
         private void same(String call, int got, int want) {
+            asked++;
             told.append(call).append(" = ").append(want).append('\n');
             due.is("run " + run + ": " + call, got, want);
         }

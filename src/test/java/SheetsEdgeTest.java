@@ -110,6 +110,7 @@ public final class SheetsEdgeTest {
         edges.refused("below 0", INDEX, SheetsEdgeTest::sixOnASheet, y -> y.whence(3, 2, -1, 1, 1));
     }
 
+    // the document has no sentence of its own for 0 items from outside the row; a reading, see NOTES.md
     private static void promise26OfNoItems() {
         AshClerks x = sixOnASheet();
         int ways = x.whence(3, 2, 0, 0, 0);
@@ -371,6 +372,7 @@ public final class SheetsEdgeTest {
         }
     }
 
+    // the document has no sentence of its own for 0 items from outside the row; a reading, see NOTES.md
     private static void promise31OfNoItems() {
         int[][] taken = {{0, 0}, {5, 5}, {0, 5}, {5, 0}};
         for (int[] t : taken) {
